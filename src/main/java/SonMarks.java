@@ -96,28 +96,23 @@ public final class SonMarks {
             return NOT_POSSIBLE;
         }
         history.note(roll);
-        int done = enrolDeeds();
-        history.keepNoted();
-        pad.empty();
-        return done;
-    }
-
-    private int enrolDeeds() {
-        stopAnswer = 0;
         int done = 0;
-        for (int at = 0; at < pad.length(); at++) {
+        stopAnswer = 0;
+        for (int at = 0; at < pad.length() && stopAnswer == 0; at++) {
             if (!pad.startsDeed(at)) {
                 continue;
             }
             int answer = enrolDeed(at);
-            if (answer < DONE) {
+            if (answer >= DONE) {
+                done++;
+            } else {
                 stopAnswer = answer;
                 stopDeed = done;
                 stopPosition = at;
-                return done;
             }
-            done++;
         }
+        history.keepNoted();
+        pad.empty();
         return done;
     }
 
@@ -463,8 +458,8 @@ public final class SonMarks {
 
         /** No two living persons bear the same shield: the first one found is the only one. */
         int livingWith(int shield) {
-            for (int i = 0; i < size; i++) {
-                if (isAlive(i) && shieldOf(i) == shield) {
+            for (int i = 0; i < size && i < MOST_PERSONS; i++) {
+                if (alive[i] && shields[i] == shield) {
                     return i;
                 }
             }
@@ -482,7 +477,8 @@ public final class SonMarks {
         }
 
         boolean areBrothers(int one, int other) {
-            return one != other && fatherOf(one) != NO_PERSON && fatherOf(one) == fatherOf(other);
+            return has(one) && has(other) && one != other
+                && fathers[one] != NO_PERSON && fathers[one] == fathers[other];
         }
 
         int founderComes(int shield) {
@@ -1080,7 +1076,7 @@ public final class SonMarks {
         }
     }
 
-    /** The fewest sons in a line; sets of bits, for rows of all shields would fill the room. */
+    /** The fewest sons in a line; in sets of bits, since rows with a number for each shield take much of the room. */
     private static final class LineSearch {
         /**
          * There are 24 ways between two shields that share no shield on the way, the longest with two

@@ -407,6 +407,32 @@ public final class PromiseTest {
         due("person(18, 1)", full.person(18, 1), 0);
         due("person(17, 1)", full.person(17, 1), 0);
         due("person(1, 1)", full.person(1, 1), 1);
+        enrollingLaterFathers();
+    }
+
+    /** Fathers of two digits: 10, 14, 17 and 18. */
+    private static void enrollingLaterFathers() {
+        SonMarks x = new SonMarks();
+        for (int i = 0; i < 15; i++) {
+            due("found(" + i * 31 + ")", x.found(i * 31), 10 + i);
+        }
+        int[] fathers = {10, 14, 14, 17, 18};
+        for (int i = 0; i < fathers.length; i++) {
+            int mark = x.mark(fathers[i], 5) + 1;
+            write(x, "s" + fathers[i] + ".5=" + mark);
+            due("enrol() of a son of " + fathers[i], x.enrol(), i == 2 ? 0 : 1);
+            write(x, "s" + fathers[i] + ".4=" + 4);
+            due("enrol() of one more", i == 2 ? x.enrol() : x.clear(), i == 2 ? 1 : 7);
+        }
+        due("person(15, 2)", x.person(15, 2), 10);
+        due("person(16, 2)", x.person(16, 2), 14);
+        due("person(17, 2)", x.person(17, 2), 14);
+        due("person(18, 2)", x.person(18, 2), 17);
+        due("person(19, 2)", x.person(19, 2), 18);
+        due("person(19, 3)", x.person(19, 3), 5);
+        due("person(17, 3)", x.person(17, 3), 4);
+        write(x, "h19;d19");
+        due("enrol() of an heir whose father lives", x.enrol(), 0);
     }
 
     private static void reasonsOfStops() {
@@ -620,6 +646,8 @@ public final class PromiseTest {
         due("best(1): 1 at the place 1 is one away from 2", y.best(1), 7);
         SonMarks z = made("f000000;s0.0=1;s0.1=1;s0.2=1;s0.3=1");
         due("best(0), four sons", z.best(0), NONE);
+        SonMarks w = made("f444444");
+        due("best(0), no one else, the mark 0 at the place 0", w.best(0), 0);
         due("best of a full roll", fullRoll().best(19) >= 0 ? 1 : 0, 1);
     }
 
@@ -937,9 +965,44 @@ public final class PromiseTest {
         due("restore(), the snapshot stays", x.restore(), 1);
         due("count(9), as it was saved", x.count(9), 1);
         due("count(8)", x.count(8), 1);
+        due("person(1, 4), as it was saved", x.person(1, 4), 1);
         due("undo() of restore", x.undo(), 1);
         due("person(1, 0)", x.person(1, 0), 50);
+        due("person(1, 3)", x.person(1, 3), 2);
+        due("person(1, 4)", x.person(1, 4), 2);
         due("count(9)", x.count(9), 0);
+        undoingEachKind();
+    }
+
+    /** One undo after each kind of change, in an object whose history was used before. */
+    private static void undoingEachKind() {
+        SonMarks x = made("f000000;s0.0=1", "s0.0=2", "d0", "h1");
+        due("found(77)", x.found(77), 13);
+        due("undo() of found", x.undo(), 3);
+        due("count(0)", x.count(0), 3);
+        due("count(1)", x.count(1), 2);
+        due("found(0), refused", x.found(0), 3);
+        due("undo() of found", x.undo(), 3);
+        due("count(9)", x.count(9), 0);
+        due("count(1)", x.count(1), 2);
+        due("bear(1, 5, 1)", x.bear(1, 5, 1), 13);
+        due("undo() of bear", x.undo(), 3);
+        due("count(0)", x.count(0), 3);
+        due("die(2)", x.die(2), 11);
+        due("undo() of die", x.undo(), 3);
+        due("person(2, 1)", x.person(2, 1), 1);
+        due("die(1)", x.die(1), 11);
+        due("inherit(2)", x.inherit(2), 11);
+        due("undo() of inherit", x.undo(), 3);
+        due("person(2, 0)", x.person(2, 0), 2);
+        due("count(8)", x.count(8), 1);
+        write(x, "h2;d2");
+        due("enrol()", x.enrol(), 2);
+        due("undo() of enrol", x.undo(), 3);
+        due("person(2, 0)", x.person(2, 0), 2);
+        due("person(2, 1)", x.person(2, 1), 1);
+        due("undo() of the death of 1", x.undo(), 2);
+        due("person(1, 1)", x.person(1, 1), 1);
     }
 
     private static void saving() {
