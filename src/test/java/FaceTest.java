@@ -21,8 +21,10 @@ public final class FaceTest {
     private static final String[] CONSTANTS = {
         "INVALID_ARGUMENT=-1", "NOT_POSSIBLE=-2", "LIMIT_REACHED=-3", "NOT_FOUND=-4"};
     private static final String[] FORBIDDEN = {
-        "^\\s*package\\b", "^\\s*import\\b", "\\bcatch\\b", "\\bfinally\\b", "\\bsynchronized\\b", "\\bassert\\b", "->", "::",
-        "\\bSystem\\.(?!arraycopy)", "\\bThread\\b", "\\bRandom\\b", "\\bObject\\b", "\\bthrow\\b", "\\[\\]\\[\\]\\[\\]",
+        "^\\s*package\\b", "^\\s*import\\b(?! java\\.util\\.(ArrayList|List|Arrays|Iterator|NoSuchElementException);)",
+        "\\bfinally\\b", "\\bsynchronized\\b", "\\bassert\\b", "^(?!\\s*(case|default)\\b).*->", "::",
+        "\\bSystem\\.(?!arraycopy)", "\\bThread\\b", "\\bRandom\\b", "\\bObject\\b", "\\[\\]\\[\\]\\[\\]",
+        "\\bcatch\\s*\\(\\s*(final\\s+)?(Exception|Throwable|Error|NullPointer|ArrayIndex|ClassCast|NegativeArray|ArrayStore)",
         "\\bprotected\\b", "\\bstatic\\s*\\{", "[^\\x00-\\x7f]", "\\bMath\\.\\w*Exact\\b"};
     private static final Dues dues = new Dues();
 
