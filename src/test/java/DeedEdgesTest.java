@@ -52,7 +52,7 @@ public final class DeedEdgesTest extends Edges {
     }
 
     static void p01Constants() {
-        sentence("INVALID_ARGUMENT = -1, NOT_POSSIBLE = -2, LIMIT_REACHED = -3, NOT_FOUND = -4");
+        sentence("The constants:");
         due("INVALID_ARGUMENT", SonMarks.INVALID_ARGUMENT, -1);
         due("NOT_POSSIBLE", SonMarks.NOT_POSSIBLE, -2);
         due("LIMIT_REACHED", SonMarks.LIMIT_REACHED, -3);
@@ -281,7 +281,7 @@ public final class DeedEdgesTest extends Edges {
     }
 
     static void p03TwentyPersons() {
-        sentence("Returns 10 and the number of the person; LIMIT_REACHED if there are 20 persons.");
+        sentence("LIMIT_REACHED if there are 20 persons.");
         SonMarks x = founders(18);
         due("bear(17, 5, 1), the 19th", x.bear(17, 5, 1), 28);
         due("bear(18, 4, 4), the 20th", x.bear(18, 4, 4), 29);

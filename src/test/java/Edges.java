@@ -113,18 +113,25 @@ abstract class Edges {
         return x;
     }
 
-    /** All that can be told of an object without a change; 15 calls, and 12 more for each person. */
-    static String told(SonMarks x) {
-        StringBuilder all = new StringBuilder();
-        for (int what = 0; what < 12; what++) {
-            all.append(x.count(what)).append(what == 11 ? " persons" : " ");
+    /** What undo() and restore() bring back: 10 calls, and 12 more for each person. */
+    static String state(SonMarks x) {
+        StringBuilder all = new StringBuilder("counts");
+        for (int what = 0; what < 10; what++) {
+            all.append(' ').append(x.count(what));
         }
         for (int person = 0; person < x.count(0); person++) {
+            all.append(" person ").append(person).append(':');
             for (int what = 0; what < 12; what++) {
-                all.append(what == 0 ? " | " : " ").append(x.person(person, what));
+                all.append(' ').append(x.person(person, what));
             }
         }
-        all.append(" fault ").append(x.fault());
+        return all.toString();
+    }
+
+    /** All that can be told of an object without a change. */
+    static String told(SonMarks x) {
+        StringBuilder all = new StringBuilder(state(x));
+        all.append(" pad ").append(x.count(10)).append(" states ").append(x.count(11)).append(" fault ").append(x.fault());
         for (int what = 0; what < 3; what++) {
             all.append(" why ").append(x.why(what));
         }

@@ -1,3 +1,5 @@
+import java.util.function.IntSupplier;
+
 /** The boundary cases of the promises 24 to 26, and of changes and errors: history, snapshot, calls that change nothing. */
 public final class HistoryEdgesTest extends Edges {
     public static void main(String[] args) {
@@ -51,6 +53,36 @@ public final class HistoryEdgesTest extends Edges {
         due("undo() of bear", x.undo(), 0);
         due("undo() of the roll, which was dropped", x.undo(), NOT_POSSIBLE);
         due("count(0)", x.count(0), 1);
+    }
+
+    static void p24EachStateComesBack() {
+        sentence("everything but the pad, the snapshot and why() is as it was before it");
+        SonMarks x = new SonMarks();
+        thereAndBack(x, () -> x.found(0), () -> x.bear(0, 0, 1), () -> x.die(0), () -> x.inherit(1));
+        SonMarks y = new SonMarks();
+        due("save()", y.save(), 0);
+        write(y, "f000000;s0.0=1;d0;d0");
+        thereAndBack(y, () -> y.enrol(), () -> y.found(7), () -> y.restore(), () -> y.found(8));
+        SonMarks z = new SonMarks();
+        thereAndBack(z, () -> z.found(0), () -> z.found(0), () -> z.bear(0, 0, 0), () -> z.inherit(0));
+        SonMarks w = new SonMarks();
+        thereAndBack(w, () -> w.found(0), () -> w.die(0), () -> w.die(0), () -> w.bear(0, 0, 1));
+    }
+
+    /** Changes at most four times, then undoes each of the changes. */
+    private static void thereAndBack(SonMarks x, IntSupplier... changes) {
+        String[] before = new String[changes.length];
+        for (int i = 0; i < changes.length; i++) {
+            before[i] = state(x);
+            due("change " + i, changes[i].getAsInt() >= 0 ? 1 : 0, 1);
+            due("count(11)", x.count(11), i + 1);
+            due("something is another one", state(x).equals(before[i]) ? 0 : 1, 1);
+        }
+        for (int i = changes.length - 1; i >= 0; i--) {
+            due("undo()", x.undo(), i);
+            same("undone change " + i, state(x), before[i]);
+        }
+        due("undo()", x.undo(), NOT_POSSIBLE);
     }
 
     static void p24NewChangesAfterUndo() {
@@ -224,6 +256,64 @@ public final class HistoryEdgesTest extends Edges {
         due("count(0)", x.count(0), 2);
     }
 
+    static void p24SeveralErrors() {
+        sentence("If several errors apply to a call, INVALID_ARGUMENT is returned rather than NOT_POSSIBLE");
+        SonMarks x = roll("f000000;s0.0=1;d0");
+        due("inherit(2), no person", x.inherit(2), BAD);
+        due("inherit(0), dead", x.inherit(0), NOT_POSSIBLE);
+        due("ifDead(0, 3), dead", x.ifDead(0, 3), BAD);
+        due("ifDead(0, 2), dead", x.ifDead(0, 2), NOT_POSSIBLE);
+        due("line(0, 15625, 0), dead", x.line(0, 15625, 0), BAD);
+        due("line(0, 15624, 2), dead", x.line(0, 15624, 2), BAD);
+        due("line(0, 15624, 0), dead", x.line(0, 15624, 0), NOT_POSSIBLE);
+    }
+
+    static void p24NotPossibleRatherThanNotFound() {
+        sentence("NOT_POSSIBLE rather than LIMIT_REACHED, and LIMIT_REACHED rather than NOT_FOUND.");
+        SonMarks x = roll("f000000;f100000;d0");
+        due("line(0, 1, 0), dead, and another one bears it", x.line(0, 1, 0), NOT_POSSIBLE);
+        due("line(0, 1, 1), dead, and another one bears it", x.line(0, 1, 1), NOT_POSSIBLE);
+        due("ifDead(0, 0), dead, and no heir", x.ifDead(0, 0), NOT_POSSIBLE);
+        due("ifDead(1, 0), alive, and no heir", x.ifDead(1, 0), NONE);
+    }
+
+    static void p24InvalidRatherThanNotFound() {
+        sentence("If several errors apply to a call, INVALID_ARGUMENT is returned");
+        SonMarks x = roll("f000000;f100000");
+        due("why(3), no deed", x.why(3), BAD);
+        due("why(2), no deed", x.why(2), NONE);
+        due("person(0, 12), a founder", x.person(0, 12), BAD);
+        due("person(0, 11), a founder", x.person(0, 11), NONE);
+        due("kin(0, 2), no person", x.kin(0, 2), BAD);
+        due("kin(0, 1), two founders", x.kin(0, 1), NONE);
+        due("line(0, 1, 2), another one bears it", x.line(0, 1, 2), BAD);
+        due("line(0, 1, 1), another one bears it", x.line(0, 1, 1), NONE);
+        due("ifDead(0, 3), no heir", x.ifDead(0, 3), BAD);
+        due("ifDead(0, 0), no heir", x.ifDead(0, 0), NONE);
+    }
+
+    static void p24NoSuchPerson() {
+        sentence("If there is no person of a certain number, this is INVALID_ARGUMENT.");
+        SonMarks x = new SonMarks();
+        for (int n = 0; n <= 20; n++) {
+            due("person(" + (n - 1) + ", 1) of " + n, x.person(n - 1, 1), n == 0 ? BAD : 1);
+            due("person(" + n + ", 1) of " + n, x.person(n, 1), BAD);
+            due("mark(" + n + ", 0)", x.mark(n, 0), BAD);
+            due("whyNot(" + n + ", 5, 4)", x.whyNot(n, 5, 4), BAD);
+            due("choices(" + n + ", 0)", x.choices(n, 0), BAD);
+            due("choices(" + n + ", 1)", x.choices(n, 1), BAD);
+            due("best(" + n + ")", x.best(n), BAD);
+            due("differs(" + n + ", 0)", x.differs(n, 0), BAD);
+            due("kin(0, " + n + ")", x.kin(0, n), BAD);
+            due("line(" + n + ", 15624, 0)", x.line(n, 15624, 0), BAD);
+            due("ifDead(" + n + ", 0)", x.ifDead(n, 0), BAD);
+            due("bear(" + n + ", 5, 4)", x.bear(n, 5, 4), BAD);
+            due("die(" + n + ")", x.die(n), BAD);
+            due("inherit(" + n + ")", x.inherit(n), BAD);
+            due("found(" + 31 * n + ")", x.found(31 * n), n == 20 ? LIMIT : 10 + n);
+        }
+    }
+
     static void p24LimitChangesNothing() {
         sentence("A call that returns an error changes nothing (the pad stays, too).");
         SonMarks x = founders(20);
@@ -307,14 +397,14 @@ public final class HistoryEdgesTest extends Edges {
         sentence("Takes a snapshot of everything but the pad, the history and why()");
         SonMarks x = roll("f012340;s0.5=4;s1.0=3;d0;h1");
         due("found, refused", x.found(x.person(1, 0)), 3);
-        String before = told(x);
+        String before = state(x);
         due("save()", x.save(), 2);
         due("die(1)", x.die(1), 11);
         due("inherit(2)", x.inherit(2), 12);
         due("bear(2, 3, 1)", x.bear(2, 3, 1), 13);
         due("bear(2, 3, 1)", x.bear(2, 3, 1), 3);
         due("restore()", x.restore(), 2);
-        same("after restore()", told(x).replace(" 4 persons", " 2 persons"), before);
+        same("after restore()", state(x), before);
     }
 
     // ---- promise 26
@@ -407,6 +497,22 @@ public final class HistoryEdgesTest extends Edges {
         due("count(1)", x.count(1), 2);
         due("restore()", x.restore(), 2);
         due("count(11)", x.count(11), 2);
+    }
+
+    static void p26AnotherRollInstead() {
+        sentence("Restores the snapshot, which stays.");
+        SonMarks x = roll("f000000;s0.1=2;s1.2=3;d0");
+        String saved = state(x);
+        due("save()", x.save(), 2);
+        due("undo()", x.undo(), 0);
+        enrols(x, "f444444;s0.4=0;f222222;s2.5=4;d1;d1", 5);
+        String other = state(x);
+        due("restore()", x.restore(), 2);
+        same("restored", state(x), saved);
+        due("undo()", x.undo(), 1);
+        same("undone", state(x), other);
+        due("restore()", x.restore(), 2);
+        same("restored again", state(x), saved);
     }
 
     static void p26SnapshotIsApart() {

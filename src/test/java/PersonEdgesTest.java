@@ -33,7 +33,7 @@ public final class PersonEdgesTest extends Edges {
     }
 
     static void p11What() {
-        sentence("`what`: 0: the shield; 1: 1 if the person lives, otherwise 0; .. 11: in how many places");
+        sentence("`what`: 0: the shield; 1: 1 if the person lives, otherwise 0; 2: the father, NOT_FOUND for a founder");
         SonMarks x = three();
         int[] wrong = {LEAST, -1, 12, 13, MOST};
         for (int what : wrong) {
@@ -281,28 +281,48 @@ public final class PersonEdgesTest extends Edges {
 
     // ---- promise 13
 
-    static void p13Arguments() {
-        sentence("`father`: a person; `place`: 0 to 5; `mark`: 0 to 4");
+    static void p13Father() {
+        sentence("`father`: a person");
         SonMarks x = three();
         for (int father : WRONG_PERSONS) {
             due("whyNot(" + father + ", 0, 2)", x.whyNot(father, 0, 2), BAD);
+            due("whyNot(" + father + ", 6, 5)", x.whyNot(father, 6, 5), BAD);
         }
+        due("whyNot(0, 0, 2)", x.whyNot(0, 0, 2), 0);
+        due("whyNot(2, 0, 2)", x.whyNot(2, 0, 2), 0);
+        due("whyNot(19, 5, 4) of 20", founders(20).whyNot(19, 5, 4), 0);
+        due("whyNot(20, 5, 4) of 20", founders(20).whyNot(20, 5, 4), BAD);
+    }
+
+    static void p13Place() {
+        sentence("`place`: 0 to 5");
+        SonMarks x = three();
         for (int place : WRONG_PLACES) {
             due("whyNot(0, " + place + ", 2)", x.whyNot(0, place, 2), BAD);
         }
+        due("whyNot(0, 0, 2)", x.whyNot(0, 0, 2), 0);
+        due("whyNot(0, 5, 2)", x.whyNot(0, 5, 2), 0);
+        due("whyNot(2, 5, 4)", x.whyNot(2, 5, 4), 2);
+        due("die(0)", x.die(0), 12);
+        due("whyNot(0, 6, 2), dead", x.whyNot(0, 6, 2), BAD);
+        due("whyNot(0, -1, 2), dead", x.whyNot(0, -1, 2), BAD);
+        due("whyNot(0, 5, 2), dead", x.whyNot(0, 5, 2), 1);
+    }
+
+    static void p13Mark() {
+        sentence("`mark`: 0 to 4");
+        SonMarks x = three();
         for (int mark : WRONG_MARKS) {
             due("whyNot(0, 0, " + mark + ")", x.whyNot(0, 0, mark), BAD);
         }
         due("whyNot(0, 0, 0)", x.whyNot(0, 0, 0), 2);
         due("whyNot(0, 0, 4)", x.whyNot(0, 0, 4), 0);
-        due("whyNot(0, 5, 0)", x.whyNot(0, 5, 0), 2);
-        due("whyNot(0, 5, 4)", x.whyNot(0, 5, 4), 0);
-        due("whyNot(2, 5, 4)", x.whyNot(2, 5, 4), 2);
         due("whyNot(2, 5, 0)", x.whyNot(2, 5, 0), 0);
+        due("whyNot(2, 5, 4)", x.whyNot(2, 5, 4), 2);
         due("die(0)", x.die(0), 12);
-        due("whyNot(0, 6, 0), dead", x.whyNot(0, 6, 0), BAD);
         due("whyNot(0, 0, 5), dead", x.whyNot(0, 0, 5), BAD);
-        due("whyNot(0, 5, 4), dead", x.whyNot(0, 5, 4), 1);
+        due("whyNot(0, 0, -1), dead", x.whyNot(0, 0, -1), BAD);
+        due("whyNot(0, 0, 4), dead", x.whyNot(0, 0, 4), 1);
     }
 
     static void p13FirstOfTheReasons() {
@@ -357,22 +377,30 @@ public final class PersonEdgesTest extends Edges {
 
     // ---- promise 14
 
-    static void p14Arguments() {
-        sentence("`father`: a person; `way`: 0: told by trying each place and mark; 1: told by the places that are left");
+    static void p14Father() {
+        sentence("`father`: a person");
         SonMarks x = three();
         for (int father : WRONG_PERSONS) {
             choices(x, father, BAD);
         }
+        choices(x, 0, 23);
+        choices(x, 1, 23);
+        choices(x, 2, 24);
+    }
+
+    static void p14Way() {
+        sentence("`way`: 0: told by trying each place and mark; 1: told by the places that are left, with 4 marks each");
+        SonMarks x = three();
         int[] ways = {LEAST, -1, 2, 3, MOST};
         for (int way : ways) {
             due("choices(0, " + way + ")", x.choices(0, way), BAD);
         }
         choices(x, 0, 23);
-        choices(x, 1, 23);
-        choices(x, 2, 24);
         due("die(0)", x.die(0), 12);
-        due("choices(0, 2), dead", x.choices(0, 2), BAD);
-        due("choices(0, -1), dead", x.choices(0, -1), BAD);
+        for (int way : ways) {
+            due("choices(0, " + way + "), dead", x.choices(0, way), BAD);
+        }
+        choices(x, 0, 0);
     }
 
     static void p14NoneAndAll() {

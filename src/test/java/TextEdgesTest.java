@@ -440,6 +440,8 @@ public final class TextEdgesTest extends Edges {
         due("why(0)", x.why(0), LIMIT);
         enrols(x, "s0.0=0;d0", 0);
         due("why(0), an error rather than a reason", x.why(0), LIMIT);
+        enrols(x, "s19.5=0;d0", 0);
+        due("why(0), the last person as a father", x.why(0), LIMIT);
         due("count(9)", x.count(9), 0);
     }
 
